@@ -1450,7 +1450,7 @@ public final class CellHandover {
 
         private int firstOf(int holds) {
             for (int i = 0; i < network.mobileCount; i++) {
-                if ((holds & 1 << i) != 0) {
+                if ((holds & (1 << i)) != 0) {
                     return i;
                 }
             }

@@ -82,4 +82,44 @@ final class Check {
     static int ask(CellHandover h, String text) {
         return h.query(feed(h, text));
     }
+
+    /** Everything that the face shows, to see that nothing has changed. */
+    static String picture(CellHandover h) {
+        StringBuilder to = new StringBuilder(scene(h));
+        add(to, h.undoCount(), h.errorPosition());
+        return to.toString();
+    }
+
+    /** What operations change and undoing restores, as far as the face shows it. */
+    static String scene(CellHandover h) {
+        StringBuilder to = new StringBuilder();
+        add(to, h.cellCount(), h.relationCount(), h.mobileCount(), h.clock());
+        for (int what = 0; what < 8; what++) {
+            add(to, h.total(what));
+        }
+        for (int cell = 0; cell < h.cellCount(); cell++) {
+            add(to, h.busyChannels(cell), h.queueLength(cell), h.congestedTicks(cell), h.level(cell, 0, 0));
+            for (int i = 0; i < 6; i++) {
+                add(to, h.queued(cell, i));
+            }
+            for (int other = 0; other < h.cellCount(); other++) {
+                add(to, h.hysteresis(cell, other), h.successes(cell, other), h.refusals(cell, other));
+            }
+        }
+        for (int mobile = 0; mobile < h.mobileCount(); mobile++) {
+            add(to, h.x(mobile), h.y(mobile), h.state(mobile), h.servingCell(mobile), h.remaining(mobile));
+            add(to, h.requestCell(mobile), h.candidate(mobile, 0));
+            for (int cell = 0; cell < h.cellCount(); cell++) {
+                add(to, h.average(mobile, cell), h.reportCount(mobile, cell), h.isBarred(mobile, cell) ? 1 : 0);
+            }
+        }
+        return to.toString();
+    }
+
+    private static void add(StringBuilder to, int... numbers) {
+        for (int number : numbers) {
+            to.append(number).append(' ');
+        }
+        to.append('|');
+    }
 }
