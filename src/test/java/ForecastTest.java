@@ -9,6 +9,7 @@ public final class ForecastTest {
         best();
         bestAgainstDrops();
         bestOfOscillation();
+        greatestIsBest();
         bestErrors();
         CHECK.end();
     }
@@ -132,6 +133,17 @@ public final class ForecastTest {
         CHECK.is("two ticks", h.bestHysteresis(0, 1, 2), 4);
         CHECK.is("four ticks", h.bestHysteresis(0, 1, 4), 8);
         CHECK.is("thirty ticks", h.bestHysteresis(0, 1, 30), 10);
+    }
+
+    private static void greatestIsBest() {
+        CellHandover h = Check.loaded("cell 0 0 40 10 1 0 0 0;cell 0 0 70 10 1 0 0 0;relation 1 0 0;relation 0 1 3;");
+        h.addMobile(0, 0, 0, 0);
+        h.call(0, 99);
+        h.addMobile(0, 0, 0, 0);
+        h.call(1, 99);
+        h.hangUp(0);
+        CHECK.is("margin 30", h.bestHysteresis(0, 1, 5), 30);
+        CHECK.is("not kept", h.bestHysteresis(0, 1, 5), 30);
     }
 
     private static void bestErrors() {

@@ -12,6 +12,7 @@ public final class HistoryTest {
         whatIsRecorded();
         whatIsNot();
         everythingComesBack();
+        hiddenThings();
         snapshots();
         snapshotOfNothing();
         snapshotAndUndo();
@@ -154,6 +155,52 @@ public final class HistoryTest {
         }
         h.setHysteresis(0, 2, 9);
         CHECK.holds("the last scene", last.equals(Check.scene(h)));
+    }
+
+    /** What only later ticks show: velocities, levels of reports, ticks of requests, bad ticks, bars. */
+    private static void hiddenThings() {
+        CellHandover h = Check.loaded("cell 0 0 60 10 1 6 0 0;settings 3 1 5 9 0 2;");
+        h.addMobile(5, 5, 3, 4);
+        h.addMobile(0, 0, 0, 0);
+        h.addMobile(0, 0, 0, 0);
+        h.setVelocity(0, 50, 60);
+        h.call(0, 90);
+        h.run(2);
+        CHECK.is("average", h.average(0, 0), (60 - 12 + 60 - 23) / 2);
+        h.run(3);
+        CHECK.is("undo", h.undo(), 6);
+        CHECK.is("average", h.average(0, 0), (60 - 12 + 60 - 23) / 2);
+        CHECK.is("undo", h.undo(), 5);
+        CHECK.is("undo", h.undo(), 4);
+        CHECK.is("undo the velocity", h.undo(), 3);
+        h.run(1);
+        CHECK.is("x", h.x(0), 8);
+        CHECK.is("y", h.y(0), 9);
+        h.setVelocity(0, 0, 0);
+        h.call(0, 90);
+        h.call(2, 90);
+        h.run(1);
+        h.call(1, 90);
+        CHECK.is("the earlier one first", h.queued(0, 0), 2);
+        h.hangUp(2);
+        h.call(2, 90);
+        CHECK.is("the smaller one first", h.queued(0, 0), 1);
+        h.undo();
+        h.undo();
+        CHECK.is("the earlier one first again", h.queued(0, 0), 2);
+        // The request of tick 1 ends in tick 10; the clock is 2.
+        h.run(8);
+        CHECK.is("not yet", h.state(2), 2);
+        h.run(1);
+        CHECK.is("the queue time of the earlier one", h.state(2), 0);
+        CHECK.is("the later one", h.state(1), 2);
+        h.undo();
+        h.saveSnapshot();
+        h.undo();
+        CHECK.holds("restore", h.restoreSnapshot());
+        h.run(1);
+        CHECK.is("the queue time of the earlier one", h.state(2), 0);
+        CHECK.is("the later one", h.state(1), 2);
     }
 
     private static void snapshots() {

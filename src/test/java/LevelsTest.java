@@ -96,6 +96,15 @@ public final class LevelsTest {
         CHECK.is("2 to 3", Check.loaded("cell 0 999 9 10 1 0 0 0;cell 999 999 9 10 1 0 0 0;"
                 + "cell 0 0 20 10 1 0 0 0;cell 0 0 15 10 1 0 0 0;").missingRelation(5), 19);
         CHECK.is("one cell", Check.loaded("cell 0 0 20 10 1 0 0 0;").missingRelation(30), -1);
+        // Slope 8 reaches 37 with level 3: the corner and its two neighbours among the grid points, no more.
+        CHECK.is("the first corner",
+                Check.loaded("cell 0 0 30 8 1 0 0 0;cell 0 0 3 8 1 0 0 0;").missingRelation(30), 1);
+        CHECK.is("the last corner",
+                Check.loaded("cell 999 999 30 8 1 0 0 0;cell 999 999 3 8 1 0 0 0;").missingRelation(30), 1);
+        CHECK.is("the last row",
+                Check.loaded("cell 500 999 30 8 1 0 0 0;cell 500 999 3 8 1 0 0 0;").missingRelation(30), -1);
+        CHECK.is("cell 1 before cell 0 on the plane",
+                Check.loaded("cell 0 0 9 8 1 0 0 0;cell 0 0 30 8 1 0 0 0;").missingRelation(30), 8);
         CellHandover h = Check.loaded(apart);
         String before = Check.picture(h);
         CHECK.illegal("margin -1", () -> h.missingRelation(-1));

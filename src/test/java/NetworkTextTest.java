@@ -15,6 +15,9 @@ public final class NetworkTextTest {
         tooMany();
         loadReplaces();
         errorKeeps();
+        loadAfterTrials();
+        forgottenMobiles();
+        forgottenRequest();
         hystereses();
         CHECK.end();
     }
@@ -121,6 +124,12 @@ public final class NetworkTextTest {
         text("^foo;", -11);
         text("^cells 0 0 60 10 1 1 10 20;", -11);
         text("^cel 0 0 60 10 1 1 10 20;", -11);
+        text("^cellz 0 0 60 10 1 1 10 20;", -11);
+        text("^acell 0 0 60 10 1 1 10 20;", -11);
+        text("cell 0^`0 60 10 1 1 10 20;", -11);
+        text("cell 0^{0 60 10 1 1 10 20;", -11);
+        text("cell 0^/0 60 10 1 1 10 20;", -11);
+        text("cell 0^:0 60 10 1 1 10 20;", -11);
         text("^Cell 0 0 60 10 1 1 10 20;", -11);
         text("^many", -11);
         text("^5", -11);
@@ -303,6 +312,107 @@ public final class NetworkTextTest {
         CHECK.is("position after the snapshot", h.errorPosition(), 18);
         CHECK.is("load", Check.load(h, CELL), 1);
         CHECK.is("position of a good text", h.errorPosition(), -1);
+    }
+
+    /** What was tried out, or read up to an error, leaves nothing in the next network. */
+    private static void loadAfterTrials() {
+        String network = "cell 0 0 60 10 1 0 0 0;cell 100 0 60 10 1 0 0 0;relation 0 1 0;relation 1 0 0;relation 0 1 9";
+        String good = network.substring(0, network.lastIndexOf("relation")) + "settings 1 1 5 4 5 3;";
+        CellHandover h = Check.loaded(good);
+        h.addMobile(50, 0, 5, 0);
+        h.addMobile(999, 999, 0, 0);
+        h.call(0, 50);
+        CHECK.is("forecast", h.forecastCell(0, 60), -1);
+        CHECK.is("forecast", h.forecastCell(0, 9), 1);
+        CHECK.is("an error", Check.load(h, network), -14);
+        CHECK.is("a mobile", h.mobileCount(), 2);
+        CHECK.is("forecast", h.forecastCell(0, 9), 1);
+        CHECK.is("load", Check.load(h, good), 2);
+        CHECK.is("relationCount", h.relationCount(), 2);
+        CHECK.is("mobileCount", h.mobileCount(), 0);
+        CHECK.is("clock", h.clock(), 0);
+        for (int what = 0; what < 8; what++) {
+            CHECK.is("total", h.total(what), 0);
+        }
+        for (int cell = 0; cell < 2; cell++) {
+            CHECK.is("congested", h.congestedTicks(cell), 0);
+            CHECK.is("busy", h.busyChannels(cell), 0);
+            CHECK.is("successes", h.successes(cell, 1 - cell), 0);
+            CHECK.is("refusals", h.refusals(cell, 1 - cell), 0);
+        }
+        h.addMobile(50, 0, 5, 0);
+        h.addMobile(50, 0, 5, 0);
+        h.call(0, 50);
+        h.call(1, 50);
+        h.run(2);
+        CHECK.is("refusals", h.refusals(0, 1), 2);
+        CHECK.is("load again", Check.load(h, good), 2);
+        CHECK.is("refusals", h.refusals(0, 1), 0);
+        h.addMobile(50, 0, 5, 0);
+        h.addMobile(50, 0, 5, 0);
+        h.call(0, 50);
+        h.call(1, 50);
+        h.forecastCell(0, 2);
+        CHECK.is("load again", Check.load(h, good), 2);
+        CHECK.is("refusals of the forecast", h.refusals(0, 1), 0);
+    }
+
+    /** Mobiles of the network before, talking or waiting, have no part in the next one. */
+    private static void forgottenMobiles() {
+        String network = "cell 0 0 60 10 1 6 0 99;cell 100 0 60 10 1 0 0 0;relation 0 1 0;settings 1 1 5 4 60 9;";
+        for (int tried = 0; tried < 3; tried++) {
+            CellHandover h = Check.loaded(network);
+            h.addMobile(0, 0, 90, 0);
+            h.addMobile(0, 0, 0, 0);
+            h.addMobile(0, 0, 0, 0);
+            // Mobile 0 talks, waits or is idle, as the one that calls first, last or not at all.
+            for (int i = tried; i < 3; i++) {
+                h.call(i, 9);
+            }
+            if (tried == 1) {
+                CHECK.is("waits", h.call(0, 3), -3);
+            }
+            h.forecastCell(0, 1);
+            CHECK.is("load", Check.load(h, network), 2);
+            CHECK.is("queue", h.queueLength(0), 0);
+            CHECK.is("queued", h.queued(0, 0), -1);
+            CHECK.is("all mobiles", Check.ask(h, "many 1=1"), 0);
+            CHECK.is("all mobiles", Check.ask(h, "first not 1=2"), -1);
+            CHECK.is("run", h.run(20), 0);
+            h.addMobile(0, 0, 0, 0);
+            CHECK.is("queue", h.queueLength(0), 0);
+            CHECK.is("call", h.call(0, 2), 0);
+            CHECK.is("all mobiles", Check.ask(h, "many 1=1"), 1);
+            CHECK.is("run", h.run(1), 0);
+            CHECK.is("congested", h.congestedTicks(0), 1);
+            CHECK.is("congested", h.congestedTicks(1), 0);
+            h.hangUp(0);
+            CHECK.is("run", h.run(20), 0);
+            for (int what = 0; what < 8; what++) {
+                CHECK.is("total " + what, h.total(what), 0);
+            }
+            CHECK.is("successes", h.successes(0, 1), 0);
+            CHECK.is("refusals", h.refusals(0, 1), 0);
+        }
+    }
+
+    /** A request of the network before would come before the one that is made now. */
+    private static void forgottenRequest() {
+        CellHandover h = Check.loaded("cell 0 0 60 10 1 6 0 0;");
+        for (int i = 0; i < 3; i++) {
+            h.addMobile(0, 0, 0, 0);
+            h.call(i, 9);
+        }
+        CHECK.is("waits", h.requestCell(2), 0);
+        h.forecastCell(0, 0);
+        CHECK.is("load", Check.load(h, "cell 0 0 60 10 1 6 0 0;"), 1);
+        h.addMobile(0, 0, 0, 0);
+        h.addMobile(0, 0, 0, 0);
+        h.run(1);
+        CHECK.is("talks", h.call(0, 9), 0);
+        CHECK.is("waits", h.call(1, 9), -3);
+        CHECK.is("queued", h.queued(0, 0), 1);
+        CHECK.is("queued", h.queued(0, 1), -1);
     }
 
     private static void hystereses() {

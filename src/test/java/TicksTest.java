@@ -21,6 +21,8 @@ public final class TicksTest {
         accessOfCandidates();
         ranking();
         tiesInRanking();
+        fourCandidates();
+        mobileZeroWaits();
         refusals();
         emergencyRequest();
         requestElsewhere();
@@ -84,12 +86,12 @@ public final class TicksTest {
     private static void reports() {
         CellHandover h = Check.loaded("cell 0 0 99 10 1 0 0 0;cell 500 0 99 10 1 0 0 0;cell 0 0 99 1 1 0 0 0;"
                 + "relation 0 1 0;relation 2 0 0;settings 3 3 5 4 5 3;");
-        h.addMobile(0, 0, 10, 0);
+        h.addMobile(0, 0, 40, 0);
         CHECK.is("call", h.call(0, 500), 0);
         CHECK.is("no average yet", h.average(0, 0), -1);
         CHECK.is("no candidate yet", h.candidate(0, 0), -1);
-        int[] averages0 = {98, 97, 97, 96, 95};
-        int[] averages1 = {50, 50, 51, 52, 53};
+        int[] averages0 = {95, 93, 91, 87, 83};
+        int[] averages1 = {53, 55, 57, 61, 65};
         for (int tick = 0; tick < 5; tick++) {
             h.run(1);
             CHECK.is("average of 0", h.average(0, 0), averages0[tick]);
@@ -333,6 +335,54 @@ public final class TicksTest {
         CHECK.is("refusals of 2", h.refusals(0, 2), 0);
         CHECK.is("refusals of 3", h.refusals(0, 3), 0);
         CHECK.is("successes of 3", h.successes(0, 3), 1);
+    }
+
+    /** Each later cell has a greater margin, so that it goes before all that are there. */
+    private static void fourCandidates() {
+        CellHandover h = calling("cell 0 0 40 10 1 0 0 0;cell 0 0 50 10 1 0 0 0;cell 0 0 51 10 1 0 0 0;"
+                + "cell 0 0 52 10 1 0 0 0;cell 0 0 53 10 1 0 0 0;cell 0 0 60 10 1 0 0 0;relation 5 0 0;"
+                + "relation 0 1 0;relation 0 2 0;relation 0 3 0;relation 0 4 0;settings 1 1 5 4 5 3;", 99, 99);
+        CHECK.is("servingCell", h.servingCell(1), 0);
+        h.setHysteresis(0, 1, 30);
+        h.setHysteresis(0, 2, 30);
+        h.setHysteresis(0, 3, 30);
+        h.setHysteresis(0, 4, 30);
+        h.run(1);
+        int[][] hystereses = {{0, 0, 0, 0}, {0, 2, 4, 6}, {0, 1, 5, 0}, {9, 1, 0, 1}};
+        int[] due = {4321, 1234, 4123, 3421};
+        for (int i = 0; i < due.length; i++) {
+            for (int cell = 1; cell <= 4; cell++) {
+                h.setHysteresis(0, cell, hystereses[i][cell - 1]);
+            }
+            int ranked = 0;
+            for (int rank = 0; rank < 4; rank++) {
+                ranked = 10 * ranked + h.candidate(1, rank);
+            }
+            CHECK.is("ranking " + i, ranked, due[i]);
+        }
+    }
+
+    private static void mobileZeroWaits() {
+        CellHandover h = Check.loaded("cell 0 0 60 10 1 2 0 0;settings 4 2 5 2 5 3;");
+        h.addMobile(0, 0, 0, 0);
+        h.addMobile(0, 0, 0, 0);
+        h.addMobile(0, 0, 0, 0);
+        h.addMobile(0, 0, 0, 0);
+        h.call(3, 99);
+        h.call(0, 99);
+        CHECK.is("queue", h.queueLength(0), 1);
+        CHECK.is("queued", h.queued(0, 0), 0);
+        CHECK.is("waits too", h.call(1, 99), -3);
+        CHECK.is("queued", h.queued(0, 0), 0);
+        CHECK.is("queued", h.queued(0, 1), 1);
+        CHECK.is("the queue is full", h.call(2, 99), -5);
+        h.run(3);
+        CHECK.is("expired", h.total(7), 2);
+        CHECK.is("state", h.state(0), 0);
+        h.call(0, 99);
+        h.hangUp(3);
+        h.run(1);
+        CHECK.is("served", h.servingCell(0), 0);
     }
 
     private static void refusals() {
