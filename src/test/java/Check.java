@@ -43,6 +43,14 @@ final class Check {
         }
     }
 
+    int checks() {
+        return checks;
+    }
+
+    int wrong() {
+        return wrong;
+    }
+
     /** Ends the program with 1 if an answer was wrong. */
     void end() {
         System.out.println(checks + " checks, " + wrong + " wrong");
