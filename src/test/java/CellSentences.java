@@ -492,7 +492,33 @@ final class CellSentences {
     @Says(at = "Mobiles", value = "For every cell a mobile also has a tick up to which this cell is barred for it.")
     @Break({"boolean isBarredAt", "tick <= barredUntil[cell]", "tick <= barredUntil[0]"})
     @Break({"void bar(", "barredUntil[cell] = until", "Arrays.fill(barredUntil, until)"})
+    @Break({"void bar(", "cell >= 0", "cell <= 0"})
+    @Break({"boolean isBarredAt", "cell >= 0", "cell <= 0"})
+    @Break({"void bar(", "cell < barredUntil.length", "cell < barredUntil.length - 1"})
     static void barsOfEach(Check c) {
+        // There, back as soon as the bar of the one cell allows it, and there again when that of the other does.
+        for (int one = 0; one < 8; one++) {
+            int other = (one + 3) % 8;
+            StringBuilder text = new StringBuilder();
+            for (int i = 0; i < 8; i++) {
+                text.append(Nets.clause("cell", i == one ? 0 : i == other ? 100 : 999, 0, 60, 10, 1, 0, 0, 0));
+            }
+            CellHandover g = Nets.with(text.toString(), Nets.relation(one, other, 0), Nets.relation(other, one, 0),
+                    Nets.settings(1, 1, 2, 4, 5, 3));
+            g.addMobile(40, 0, 20, 0);
+            c.is("call", g.call(0, 500), one);
+            c.is("handover at 0", g.run(1), 1);
+            c.holds("barred up to 2", g.isBarred(0, one));
+            g.setVelocity(0, -20, 0);
+            c.is("barred at 1 and 2", g.run(2), 0);
+            c.is("handover at 3", g.run(1), 1);
+            for (int cell = 0; cell < 8; cell++) {
+                c.is("barred up to 5", g.isBarred(0, cell) ? 1 : 0, cell == other ? 1 : 0);
+            }
+            g.setVelocity(0, 99, 0);
+            c.is("barred at 4 and 5", g.run(2), 0);
+            c.is("handover at 6", g.run(1), 1);
+        }
         CellHandover h = pair(0, Nets.settings(4, 2, 50, 4, 5, 3));
         h.hangUp(0);
         c.is("handover", h.run(2), 1);
@@ -566,21 +592,24 @@ final class CellSentences {
     @Break({"private boolean comesBefore", "a.requestTick < b.requestTick", "a.requestTick > b.requestTick"})
     @Break({"private boolean comesBefore", "a.requestTick != b.requestTick", "false"})
     @Break({"private boolean comesBefore", "return first < second", "return first > second"})
+    @Break({"int queuedMobile", "int i = 0; i < mobileCount", "int i = 1; i < mobileCount"})
+    @Break({"private int requestsBefore", "int i = 0; i < mobileCount", "int i = 1; i < mobileCount"})
+    @Break({"int queuedMobile", "i < mobileCount", "i < mobileCount - 1"})
+    @Break({"private int requestsBefore", "i < mobileCount", "i < mobileCount - 1"})
     static void earlierFirst(Check c) {
         CellHandover h = Nets.with(Nets.cell(60, 1, 6, 0, 0), Nets.settings(1, 1, 5, 30, 0, 3));
-        Nets.caller(h, 0, 0);
-        for (int i = 1; i < 7; i++) {
+        for (int i = 0; i < 12; i++) {
             h.addMobile(0, 0, 0, 0);
         }
-        int[] order = {6, 4, 5, 0, 3, 1, 0, 2};
-        for (int mobile : order) {
-            if (mobile == 0) {
-                h.run(1);
-            } else {
+        h.call(7, 500);
+        int[][] order = {{11, 4, 5}, {3, 0}, {2}};
+        for (int[] callers : order) {
+            for (int mobile : callers) {
                 c.is("waits", h.call(mobile, 9), -3);
             }
+            h.run(1);
         }
-        int[] due = {4, 5, 6, 1, 3, 2, -1};
+        int[] due = {4, 5, 11, 0, 3, 2, -1};
         for (int i = 0; i < due.length; i++) {
             c.is("place " + i, h.queued(0, i), due[i]);
         }

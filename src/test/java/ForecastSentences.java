@@ -176,6 +176,8 @@ final class ForecastSentences {
     @Break({"public int bestHysteresis", "handovers < fewestHandovers", "handovers <= fewestHandovers"})
     @Break({"public int bestHysteresis", "handovers < fewestHandovers", "handovers > fewestHandovers"})
     @Break({"public int bestHysteresis", " || drops == fewestDrops && handovers < fewestHandovers", ""})
+    @Break({"public int bestHysteresis", "fewestDrops = drops;", ""})
+    @Break({"public int bestHysteresis", "fewestHandovers = handovers;", ""})
     static void fewerHandovers(Check c) {
         CellHandover h = Nets.with("cell 0 0 60 10 1 1 0 0;cell 100 0 60 10 1 1 0 0;relation 0 1 0;relation 1 0 0;",
                 Nets.settings(1, 1, 0, 4, 5, 3));
@@ -188,6 +190,12 @@ final class ForecastSentences {
         c.is("thirty ticks", h.bestHysteresis(0, 1, 30), 10);
         c.is("the other relation alters nothing", h.bestHysteresis(1, 0, 1), 0);
         c.is("no ticks", h.bestHysteresis(0, 1, 0), 0);
+        // Another call is dropped whatever the value is.
+        CellHandover g = Nets.with(PAIR, "cell 999 0 9 10 1 0 0 0;", Nets.settings(1, 1, 5, 4, 30, 3));
+        Nets.callers(g, 2);
+        g.hangUp(0);
+        c.is("the call that is dropped", Nets.caller(g, 999, 0), 2);
+        c.is("one drop, no handover", g.bestHysteresis(0, 1, 30), 10);
     }
 
     @Says(at = "Promise 38", value = "-2 if there is no such relation.")

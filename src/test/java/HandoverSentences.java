@@ -201,23 +201,33 @@ final class HandoverSentences {
     @Break({"private void insert", "margins[at - 1] < margin", "margins[at - 1] <= margin"})
     @Break({"private void insert", "margins[at - 1] < margin", "margins[at - 1] > margin"})
     @Break({"private void insert", "margins[at - 1] < margin", "false"})
+    @Break({"private void insert", "margins[at] = margins[at - 1]", "margins[at] = margins[at]"})
+    @Break({"private void insert", "cells[at] = cells[at - 1]", "cells[at] = cells[at]"})
     static void ranked(Check c) {
-        CellHandover h = Nets.with(Nets.cell(40, 1, 0, 0, 0), Nets.cell(50, 1, 0, 0, 0), Nets.cell(48, 1, 0, 0, 0),
-                Nets.cell(50, 1, 0, 0, 0), Nets.cell(49, 1, 0, 0, 0), "relation 1 0 0;relation 0 4 30;relation 0 3 30;",
-                "relation 0 2 30;relation 0 1 30;", settings(1, 1));
-        Nets.callers(h, 2);
-        h.run(1);
-        int[][] hystereses = {{0, 0, 0, 0}, {0, 0, 1, 0}, {9, 9, 9, 9}, {10, 0, 2, 1}, {3, 1, 3, 2}};
-        int[] due = {1342, 1342, 1300, 2340, 1234};
-        for (int i = 0; i < due.length; i++) {
-            for (int cell = 1; cell <= 4; cell++) {
-                h.setHysteresis(0, cell, hystereses[i][cell - 1]);
+        String network = Nets.cell(40, 1, 0, 0, 0) + Nets.cell(50, 1, 0, 0, 0) + Nets.cell(48, 1, 0, 0, 0)
+                + Nets.cell(50, 1, 0, 0, 0) + Nets.cell(49, 1, 0, 0, 0) + "relation 1 0 0;relation 0 4 30;"
+                + "relation 0 3 30;relation 0 2 30;relation 0 1 30;" + settings(1, 1);
+        int[] greatest = {10, 8, 10, 9};
+        // All ways to give the cells 1 to 4 margins from 0 to 3; those with 0 are no candidates.
+        for (int way = 0; way < 256; way++) {
+            CellHandover h = Check.loaded(network);
+            Nets.callers(h, 2);
+            h.run(1);
+            int[] margins = new int[4];
+            for (int i = 0; i < 4; i++) {
+                margins[i] = way >> 2 * i & 3;
+                h.setHysteresis(0, i + 1, greatest[i] - margins[i]);
             }
-            int ranking = 0;
-            for (int place = 0; place < 4; place++) {
-                ranking = 10 * ranking + Math.max(0, h.candidate(1, place));
+            int place = 0;
+            for (int margin = 3; margin >= 1; margin--) {
+                for (int i = 0; i < 4; i++) {
+                    if (margins[i] == margin) {
+                        c.is("place " + place + " of way " + way, h.candidate(1, place), i + 1);
+                        place++;
+                    }
+                }
             }
-            c.is("ranking " + i, ranking, due[i]);
+            c.is("no more in way " + way, h.candidate(1, place), -1);
         }
     }
 

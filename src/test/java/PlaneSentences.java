@@ -215,21 +215,35 @@ final class PlaneSentences {
     @Break({"", "ENOUGH_POINTS = 3", "ENOUGH_POINTS = 2"})
     @Break({"int findMissing", "int x = 0;", "int x = GRID_STEP;"})
     @Break({"int findMissing", "int y = 0;", "int y = GRID_STEP;"})
+    @Break({"int findMissing", "int x = 0;", "int x = -1;"})
+    @Break({"int findMissing", "int y = 0;", "int y = -1;"})
     @Break({"int findMissing", "x <= MAX_COORDINATE", "x < MAX_COORDINATE"})
     @Break({"int findMissing", "y <= MAX_COORDINATE", "y < MAX_COORDINATE"})
     @Break({"int findMissing", "Arrays.fill(nearPoints, 0);", ""})
     static void threePoints(Check c) {
-        // Cell 1 is heard at the corner and the two grid points next to it.
-        c.is("three", Nets.with("cell 0 0 30 10 1 0 0 0;cell 0 0 4 10 1 0 0 0;").missingRelation(30), 1);
-        c.is("three", Nets.with("cell 999 0 30 10 1 0 0 0;cell 999 0 4 10 1 0 0 0;").missingRelation(30), 1);
-        c.is("three", Nets.with("cell 0 999 30 10 1 0 0 0;cell 0 999 4 10 1 0 0 0;").missingRelation(30), 1);
-        c.is("three", Nets.with("cell 999 999 30 10 1 0 0 0;cell 999 999 4 10 1 0 0 0;").missingRelation(30), 1);
-        // Only at the corner, and at one more point if it is a bit nearer to that.
-        c.is("one", Nets.with("cell 0 0 30 10 1 0 0 0;cell 0 0 3 10 1 0 0 0;").missingRelation(30), -1);
+        // The level 19 - 50 * distance / 100 of cell 1 is 1 up to the distance 37, and 0 from 38 on.
+        int[] borders = {0, 999};
+        for (int x : borders) {
+            for (int y : borders) {
+                int beside = x == 0 ? 1 : 998;
+                c.is("the corner and two points", points(x, y, 19), 1);
+                c.is("one away from it, two points", points(beside, y, 19), -1);
+                c.is("only the corner", points(x, y, 18), -1);
+            }
+        }
+        c.is("five points", points(37, 962, 19), 1);
+        c.is("one point", points(37, 962, 18), -1);
+        // Two points, which are counted anew in each call.
         CellHandover two = Nets.with("cell 10 0 30 10 1 0 0 0;cell 10 0 3 10 1 0 0 0;");
         for (int i = 0; i < 3; i++) {
             c.is("two", two.missingRelation(30), -1);
         }
+    }
+
+    /** What is found if cell 0 and, with less power, cell 1 are at a point. */
+    private static int points(int x, int y, int power) {
+        return Nets.with(Nets.clause("cell", x, y, 30, 50, 1, 0, 0, 0), Nets.clause("cell", x, y, power, 50, 1, 0, 0, 0))
+                .missingRelation(30);
     }
 
     @Says(at = "Promise 13", value = "where a is the strongest cell")

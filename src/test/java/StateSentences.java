@@ -91,6 +91,7 @@ final class StateSentences {
     @Break({"void copyFrom(Mobile other)", "requestCell = other.requestCell;", ""})
     @Break({"void copyFrom(Mobile other)", "remaining = other.remaining;", ""})
     @Break({"void copyFrom(Mobile other)", "vx = other.vx;", ""})
+    @Break({"void copyFrom(Mobile other)", "vy = other.vy;", ""})
     @Break({"void copyFrom(Mobile other)", "copyInts(other.levels, levels);", ""})
     @Break({"void copyFrom(Mobile other)", "copyInts(other.barredUntil, barredUntil);", ""})
     @Break({"void copyFrom(Relation other)", "hysteresis = other.hysteresis;", ""})
@@ -151,7 +152,7 @@ final class StateSentences {
         } else if (step == 13) {
             h.hangUp(1);
         } else if (step == 17) {
-            h.setVelocity(5, 60, 0);
+            h.setVelocity(5, 60, 1);
         } else if (step == 18) {
             h.setHysteresis(0, 2, 9);
         } else if (step == 20) {

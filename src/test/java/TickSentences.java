@@ -176,6 +176,8 @@ final class TickSentences {
 
     @Says(at = AT, value = "The reports of all other cells are cleared.")
     @Break({"private void measure(", "mobile.clearReports(cell)", "mobile.reportsOf(cell)"})
+    @Break({"void clearReports", "cell >= 0", "cell > 0"})
+    @Break({"void clearReports", "cell < reportCounts.length", "cell < reportCounts.length - 1"})
     static void otherReports(Check c) {
         CellHandover h = Nets.with(Nets.cell(40, 1, 0, 0, 0), Nets.cell(50, 1, 0, 0, 0), Nets.cell(30, 1, 0, 0, 0),
                 "relation 1 0 30;relation 0 1 0;relation 0 2 30;", Nets.settings(4, 1, 5, 4, 5, 3));
@@ -190,6 +192,22 @@ final class TickSentences {
         c.is("the serving cell", h.reportCount(1, 1), 4);
         c.is("its neighbour", h.reportCount(1, 0), 4);
         c.is("another cell", h.reportCount(1, 2), 0);
+        // From each of eight cells to the next one, from where no relation leads back.
+        for (int from = 0; from < 8; from++) {
+            int to = (from + 1) % 8;
+            StringBuilder text = new StringBuilder();
+            for (int i = 0; i < 8; i++) {
+                text.append(Nets.clause("cell", i == from ? 0 : i == to ? 100 : 999, 0, 60, 10, 1, 0, 0, 0));
+            }
+            CellHandover g = Nets.with(text.toString(), Nets.relation(from, to, 0), Nets.settings(4, 1, 5, 4, 5, 3));
+            g.addMobile(40, 0, 20, 0);
+            c.is("call", g.call(0, 500), from);
+            c.is("handover", g.run(1), 1);
+            c.is("kept in this tick", g.reportCount(0, from), 1);
+            g.run(1);
+            c.is("the cell before", g.reportCount(0, from), 0);
+            c.is("the serving cell", g.reportCount(0, to), 2);
+        }
     }
 
     @Says(at = AT, value = {"Ends: for every talking mobile, the remaining duration decreases by 1.",
@@ -444,6 +462,8 @@ final class TickSentences {
     @Break({"private void expireRequests", "<= network.clock", "< network.clock"})
     @Break({"private void expireRequests", "<= network.clock", "<= network.clock + 1"})
     @Break({"private void expire(", "network.count(EXPIRED_REQUESTS);", ""})
+    @Break({"private void expireRequests", "int i = 0", "int i = 1"})
+    @Break({"private void expireRequests", "i < network.mobileCount", "i < network.mobileCount - 1"})
     @Break({"void advance(Network network, int ticks)", "expireRequests(network);\n                network.clock++;",
             "network.clock++;\n                expireRequests(network);"})
     @Break({"void advance(Network network, int ticks)", "serveQueues(network);",
@@ -471,6 +491,16 @@ final class TickSentences {
             c.is("served in its last tick", h.servingCell(1), 0);
             c.is("removed", h.total(7), 2);
         }
+        CellHandover g = Nets.with("cell 0 0 60 10 1 6 0 0;");
+        for (int i = 0; i < 12; i++) {
+            g.addMobile(0, 0, 0, 0);
+        }
+        g.call(5, 500);
+        g.call(0, 9);
+        g.call(11, 9);
+        g.run(5);
+        c.is("the first mobile", g.state(0), 0);
+        c.is("the last mobile", g.state(11), 0);
     }
 
     @Says(at = AT, value = "A mobile that waited for set-up becomes idle, and its call is blocked.")
