@@ -13,6 +13,14 @@ final class Check {
         }
     }
 
+    void same(String what, String got, String due) {
+        checks++;
+        if (!got.equals(due)) {
+            wrong++;
+            System.out.println(what + " answered " + got + ", due is " + due);
+        }
+    }
+
     void holds(String what, boolean got) {
         is(what, got ? 1 : 0, 1);
     }

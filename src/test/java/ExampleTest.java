@@ -23,7 +23,7 @@ public final class ExampleTest {
             CellHandover h = new CellHandover();
             Matcher call = CALL.matcher(parts[i]);
             while (call.find()) {
-                check.holds("example " + i + ": " + call.group(), call.group(3).equals(answer(h, call)));
+                check.same("example " + i + ": " + call.group(), answer(h, call), call.group(3));
             }
         }
         check.end();
